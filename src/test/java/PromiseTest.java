@@ -153,6 +153,8 @@ public final class PromiseTest {
         due(BEYOND, x.oakIs(-1, 0));
         due(1, text(x, 1, "u*100+a*10+h"));
         due(855, x.oakIs(15, 2));
+        due(7, x.oakIs(15, 1));
+        due(6, x.oakIs(15, 0));
         due(5, x.pig(1, 3));
         due(853, x.oakIs(15, 2));
         due(33, x.oakIs(3, 2));
@@ -184,6 +186,9 @@ public final class PromiseTest {
         due(BEYOND, x.farmer(-1, 0));
         due(35, x.farmer(8, 7));
         due(7, x.farmer(8, 35));
+        due(0, x.farmer(7, 0));
+        due(0, x.farmer(0, 0));
+        due(3, x.farmerIs(8, 0));
 
         begin(6);
         due(3, x.farmerIs(8, 0));
@@ -325,13 +330,13 @@ public final class PromiseTest {
             "", "f+", "f f", "u", "ff", "f<h<m", "f=h=m", "f>h=m", "12345", "1234f", "+f", "-1", "(f", "(f))",
             "()", "((((((f))))))", "!!!!!!f", "!(!(!(f)))", "(((((!f)))))", "f|", "f||h", "f&&h", "f!h", "f(h)",
             "2f", "f2", "f<=h", "(f<h)<m<1", "F", "f\0", "f\377", "1+2*3/4%5-", "f)", "!", "!!!!!", "(((((",
-            "(((((f)))))(",
+            "(((((f)))))(", "f&", "f<", "f=", "f>", "f-", "f*", "f/", "f%", "!f&", "(f<", "9999/",
         };
         int[] at = {
             0, 2, 1, 0, 1, 3, 3, 3, 4, 4, 0, 0, 2, 3,
             1, 5, 5, 5, 5, 2, 2, 2, 1, 1,
             1, 1, 2, 7, 0, 1, 1, 10, 1, 1, 5, 5,
-            11,
+            11, 2, 2, 2, 2, 2, 2, 2, 2, 3, 3, 5,
         };
         for (int i = 0; i < fault.length; i++) {
             due(-10 - at[i], text(x, 0, fault[i]));
@@ -368,14 +373,14 @@ public final class PromiseTest {
             "7%(0-4)", "5/0", "5%0", "1|0", "5|0", "0|0", "5&7", "5&0", "0|1&0", "1|1&0", "1<2", "2<1", "2>1",
             "1>2", "2=2", "2=3", "1+1=2", "!0", "!5", "!!5", "!0+1", "!(0+1)", "2*!0", "1<2&2<3", "1<2|9<3",
             "9999*9999*9999", "6553/2*9999*0+0012", "u+a*h", "(u<a)+(u>a)", "3-1+1", "8/2*3", "8*3%5", "0-h",
-            "(0-2048*1024*1024)/(0-1)", "(0-2000*1000*1000-9999*9999)>0", "0/0+1", "5&!0=1", "3=3+0",
+            "(0-2048*1024*1024)/(0-1)", "2<2", "2>2", "(0-2000*1000*1000-9999*9999)>0", "0/0+1", "5&!0=1", "3=3+0",
         };
         long[] value = {
             12, 7, 5, 14, 20, 10, 10, 3, 3, -3, -3,
             3, 0, 0, 1, 1, 0, 1, 0, 0, 1, 1, 0, 1,
             0, 1, 0, 1, 1, 0, 1, 2, 0, 2, 1, 1,
             (int) (9999L * 9999L * 9999L), 12, 47, 1, 3, 12, 4, -5,
-            MIN, 0, 1, 1, 1,
+            MIN, 0, 0, 0, 1, 1, 1,
         };
         for (int i = 0; i < text.length; i++) {
             due(1, text(x, 1, text[i]));
@@ -464,6 +469,19 @@ public final class PromiseTest {
         due(9999, x.count(0));
         due(0, x.count(4));
         due(1, x.count(11));
+        // BY DRAWS the last DAY can be reached as well.
+        x.pig(1, 0);
+        PigNinths y = dry();
+        for (int i = 0; i < 222; i++) {
+            due(0, y.days(45));
+        }
+        y.image();
+        y.draws(9);
+        due(9999, y.count(0));
+        due(9990, y.restore());
+        due(STATE, y.draws(10));
+        due(9990, y.count(0));
+        x.pig(1, 5);
         // AHEAD goes beyond 9999: DAY 9999 is of FARMER 0, DAY 10000 of FARMER 1.
         x.oak(0, 1, 70);
         due(35 - 8 * 3, x.then(1, 0, 2));
@@ -585,7 +603,40 @@ public final class PromiseTest {
         }
         due(21, x.days(1));
         due(0, x.count(2));
+        // What is dug is smelled no more: 10, then 9 beside it, then 3, then 2.
+        x = dry();
+        x.oak(5, 1, 10);
+        x.oak(6, 1, 9);
+        x.pig(0, 5);
+        due(19, x.days(1));
+        // In the fifth hour nothing is left: of equals the least OAK beside 6.
+        due(2, x.count(2));
+        ways();
         noses();
+    }
+
+    /** Each WAY from each OAK: it is led there, or stays where SMELL holds it. */
+    private static void ways() {
+        for (int oak = 0; oak < 16; oak++) {
+            for (int way = 0; way < 5; way++) {
+                PigNinths x = dry();
+                x.pig(0, oak);
+                x.pig(1, 1);
+                x.oak(oak, 1, 9);
+                x.leash(0, 0, way);
+                x.days(1);
+                int row = oak / 4 + new int[] {-1, 0, 1, 0, 0}[way];
+                int column = oak % 4 + new int[] {0, 1, 0, -1, 0}[way];
+                boolean stays = row < 0 || row > 3 || column < 0 || column > 3;
+                due(stays ? oak : 4 * row + column, x.count(2));
+                // Where all smell alike it goes to the least beside it, or its own.
+                x.oak(oak, 1, 0);
+                x.pig(0, oak);
+                x.pig(1, 1);
+                x.days(1);
+                due(oak >= 4 ? oak - 4 : Math.max(0, oak - 1), x.count(2));
+            }
+        }
     }
 
     private static void noses() {
@@ -638,6 +689,10 @@ public final class PromiseTest {
         due(z, x.count(11));
         due((z >>> 8) % 10, x.count(4));
         due(4, x.count(0));
+        PigNinths y = dry();
+        y.oak(0, 1, 999);
+        due(105, y.draws(3));
+        due(105, y.count(6));
         due(BEYOND, x.draws(0));
         due(BEYOND, x.draws(46));
         due(BEYOND, x.draws(-1));
@@ -674,6 +729,16 @@ public final class PromiseTest {
         due(1, x.then(45, 1, 4));
         due(3, x.then(45, 1, 7));
         due(4, x.then(45, 1, 8));
+        x.leash(8, 0, 0);
+        x.leash(8, 3, 1);
+        due(0, x.then(3, 8, 5));
+        due(4, x.then(3, 8, 6));
+        due(1, x.then(3, 8, 8));
+        x.days(2);
+        due(35, x.then(0, 1, 3));
+        due(38, x.then(0, 1, 2));
+        x = dry();
+        x.oak(0, 1, 100);
         due(BEYOND, x.then(46, 0, 0));
         due(BEYOND, x.then(-1, 0, 0));
         due(BEYOND, x.then(0, 9, 0));
@@ -706,6 +771,8 @@ public final class PromiseTest {
         due(0, x.count(0));
         due(1, x.count(4));
         due(0, dry().ahead(0, 3));
+        x.oak(1, 1, 61);
+        due(1, x.ahead(0, 3));
     }
 
     private static void bestLeash() {
@@ -751,6 +818,29 @@ public final class PromiseTest {
         due(BEYOND, x.bestLeash(-1));
         due(0, x.count(0));
         due(0, x.count(5));
+        // Of another FARMER, by all four WAYS: from 0 to 15, where alone something lies.
+        x = dry();
+        x.oak(15, 1, 900);
+        x.trade(0, 7);
+        x.pig(1, 5);
+        x.pig(0, 2);
+        due(14, x.bestLeash(0));
+        due(1, x.bestLeash(1));
+        due(2, x.bestLeash(2));
+        due(2, x.bestLeash(3));
+        // East leaves the wood there, so SMELL leads from 11 to 15.
+        due(1, x.bestLeash(4));
+        x.pig(0, 8);
+        due(14, x.bestLeash(0));
+        due(1, x.bestLeash(1));
+        due(1, x.bestLeash(2));
+        due(1, x.bestLeash(3));
+        due(1, x.bestLeash(4));
+        for (int f = 0; f < 9; f++) {
+            for (int i = 0; i < 4; i++) {
+                due(4, x.farmerIs(f, 5 + i));
+            }
+        }
         // Four hours lead away from what lies near, to where more lies.
         x = dry();
         x.oak(0, 1, 4);
@@ -795,6 +885,15 @@ public final class PromiseTest {
         }
         due(best, x.bestFeed(0));
         due(purse[best], x.bestFeed(1));
+        // All others hide all: it feeds 9, that most is left for its own next day.
+        x = dry();
+        x.oak(0, 1, 35 * 9);
+        for (int f = 1; f < 9; f++) {
+            x.farmer(f, 39);
+        }
+        due(9, x.bestFeed(0));
+        due(11 + 11, x.bestFeed(1));
+        due(0, x.bestFeed(2));
         lostByFeed();
     }
 
@@ -867,6 +966,37 @@ public final class PromiseTest {
         due(NONE, x.bestTrade());
         due(1, x.told(2));
         bestTrades();
+        bestTradeOfTwo();
+    }
+
+    /** FARMER 0 and FARMER 1 (each then a ninth and what is left over) would both gain, no others. */
+    private static void bestTradeOfTwo() {
+        int found = 0;
+        for (int lies = 0; lies < 999; lies++) {
+            PigNinths x = dry();
+            x.oak(0, 1, lies);
+            x.farmer(0, 31 + lies % 9);
+            x.farmer(1, 40 + lies % 10);
+            int most = 0;
+            int pair = -1;
+            int gains = 0;
+            for (int one = 0; one < 2; one++) {
+                for (int other = one + 1; other < 9; other++) {
+                    int a = x.gain(one, other);
+                    int b = x.gain(other, one);
+                    if (a > 0 && b > 0 && a + b > most) {
+                        most = a + b;
+                        pair = 10 * one + other;
+                        gains = Math.min(a, b);
+                    }
+                }
+            }
+            int is = x.bestTrade();
+            due(true, is >= 20 || is == (pair < 0 ? NONE : pair));
+            found |= is == 1 ? 1 : 0;
+            found |= is == pair && gains == 1 ? 2 : 0;
+        }
+        due(3, found);
     }
 
     private static void bestTrades() {
@@ -971,6 +1101,15 @@ public final class PromiseTest {
         sheetOf(x, 0, 32, 11, 3, 3, 3, 3, 3, 3, 3, 3);
         due(510, x.whoHid(0, 2, 0));
         due(1, x.whoHid(0, 2, 1));
+        // All of 99 is hidden: with 8 there would be 11 to part, so 9 it is.
+        x = dry();
+        x.pig(1, 9);
+        x.oak(0, 1, 999);
+        sheetOf(x, 0, 8, 99, 0, 0, 0, 0, 0, 0, 0, 0);
+        due(1, x.whoHid(0, 1, 0));
+        due(9, x.whoHid(0, 1, 2));
+        x.put(0, 0, 98);
+        due(0, x.whoHid(0, 1, 0));
         whoHidErrors();
     }
 
@@ -1098,6 +1237,15 @@ public final class PromiseTest {
         PigNinths x = new PigNinths();
         due(NONE, x.body(0));
         due(1, x.voice(1, 0, 0));
+        due(2, x.voice(1, 1, 0));
+        due(2, x.count(10));
+        due(11, x.body(0));
+        due(PARTED, x.voice(0, 3, 0));
+        due(1, x.count(10));
+        due(13, x.body(0));
+        due(1, x.voice(1, 0, 0));
+        due(0, x.voice(1, 3, 0));
+        due(1, x.voice(1, 0, 0));
         due(10, x.body(0));
         due(NONE, x.body(1));
         due(NONE, x.body(-1));
@@ -1180,6 +1328,11 @@ public final class PromiseTest {
         due(3, x.unders(1));
         due(60, x.oakIs(0, 1));
         due(4, x.oakIs(1, 1));
+        due(5, x.oakIs(2, 1));
+        sheetOf(x, 3, 16, 0, 0, 0);
+        due(3, x.move(1, 0, 3, 0, 3));
+        due(3, x.unders(3));
+        due(60, x.oakIs(0, 1));
         due(5, x.oakIs(2, 1));
         // To the same one, as they all were: up and down.
         due(4, x.move(0, 0, 0, 1, 4));
