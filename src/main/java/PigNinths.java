@@ -1221,7 +1221,7 @@ public final class PigNinths {
         }
     }
 
-    /** A row of numbers of 8, 16 or 32 bits, or (0 bits) a missing one. */
+    /** A row of numbers of 8, 16 or 32 bits, each with its sign, or (0 bits) a missing one. */
     private static final class Sheet {
         final int[] numbers = new int[SHEET_ROOM];
         int bits = 0;
@@ -1243,7 +1243,9 @@ public final class PigNinths {
 
         void hold(int i, int v) {
             if (i >= 0 && i < size) {
-                numbers[i] = bits == 32 ? v : v & ((1 << bits) - 1);
+                // What does not fit is shifted out; the highest bit that stays is the sign.
+                int unused = 32 - bits;
+                numbers[i] = v << unused >> unused;
             }
         }
 

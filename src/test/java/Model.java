@@ -698,10 +698,7 @@ final class Model {
             case 26: {
                 long[] row = row(a[0]);
                 in(a[1], 0, row.length - 1);
-                row[a[1]] = a[2] & (1L << bits[a[0]]) - 1;
-                if (bits[a[0]] == 32) {
-                    row[a[1]] = a[2];
-                }
+                row[a[1]] = bits[a[0]] == 8 ? (byte) a[2] : bits[a[0]] == 16 ? (short) a[2] : a[2];
                 return 1;
             }
             case 27: return move(a[0], a[1], a[2], a[3], a[4]);

@@ -150,7 +150,7 @@ public final class ModelTest {
         int sheet = random.nextInt(4);
         int n = 1 + random.nextInt(18);
         int farmer = random.nextInt(9);
-        call(25, 0, sheet, 32, 9 + random.nextInt(3));
+        call(25, 0, sheet, random.nextInt(3) > 0 ? 32 : 8 << random.nextInt(2), 9 + random.nextInt(3));
         int km = call(3, 0, farmer, 30 + random.nextInt(10));
         for (int f = 0; f < 9; f++) {
             call(26, 0, sheet, f, call(15, 0, n, f, 2));

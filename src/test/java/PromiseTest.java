@@ -1110,7 +1110,69 @@ public final class PromiseTest {
         due(9, x.whoHid(0, 1, 2));
         x.put(0, 0, 98);
         due(0, x.whoHid(0, 1, 0));
+        whoHidSigns();
         whoHidErrors();
+    }
+
+    /** A PURSE above the greatest number of a SHEET cannot be told by it: there it has another sign. */
+    private static void whoHidSigns() {
+        PigNinths x = dry();
+        x.oak(0, 1, 999);
+        x.farmer(0, 39);
+        due(980, x.days(28));
+        int[] purses = pursesNextDay(x);
+        due(140 + 24 * 3 + 2, purses[0]);
+        sheetOf(x, 0, 32, purses);
+        due(1, x.whoHid(0, 1, 0) & 1);
+        sheetOf(x, 0, 16, purses);
+        due(1, x.whoHid(0, 1, 0) & 1);
+        sheetOf(x, 0, 8, purses);
+        due(0, x.whoHid(0, 1, 0));
+        due(NONE, x.whoHid(0, 1, 1));
+        // The greatest that each of them tells.
+        x = dry();
+        x.pig(1, 9);
+        x.oak(0, 1, 999);
+        x.farmer(0, 39);
+        for (int day = 0; day < 30 && x.then(1, 0, 2) <= 127; day++) {
+            sheetOf(x, 0, 8, pursesNextDay(x));
+            due(1, x.whoHid(0, 1, 0) & 1);
+            x.days(1);
+        }
+        due(1, x.then(1, 0, 2) > 127 ? 1 : 0);
+        sheetOf(x, 0, 8, pursesNextDay(x));
+        due(0, x.whoHid(0, 1, 0));
+        wholeYears();
+    }
+
+    /** PURSES that 16 bits do not tell: hungry days until each has more than 32767. */
+    private static void wholeYears() {
+        PigNinths x = new PigNinths();
+        x.rain(9);
+        x.pig(1, 9);
+        for (int farmer = 0; farmer < 9; farmer++) {
+            x.farmer(farmer, 49);
+        }
+        for (int calls = 0; calls < 200 && x.count(6) <= 9 * 33000; calls++) {
+            x.days(45);
+        }
+        int[] purses = pursesNextDay(x);
+        for (int purse : purses) {
+            due(1, purse > 32767 && purse < 65536 ? 1 : 0);
+        }
+        sheetOf(x, 0, 32, purses);
+        due(511, x.whoHid(0, 1, 0));
+        sheetOf(x, 0, 16, purses);
+        due(0, x.whoHid(0, 1, 0));
+        due(NONE, x.whoHid(0, 1, 2));
+    }
+
+    private static int[] pursesNextDay(PigNinths x) {
+        int[] purses = new int[9];
+        for (int farmer = 0; farmer < 9; farmer++) {
+            purses[farmer] = x.then(1, farmer, 2);
+        }
+        return purses;
     }
 
     private static void whoHidErrors() {
@@ -1289,17 +1351,47 @@ public final class PromiseTest {
         due(NONE, x.put(3, 99, 0));
         due(BEYOND, x.put(1, 2, 0));
         due(BEYOND, x.put(1, -1, 0));
-        sheetOf(x, 0, 8, 256 + 99, 255, -256);
-        due(3, x.unders(0));
+        sheetOf(x, 0, 8, 256 + 99, 127, -256, -129, 128);
+        due(4, x.unders(0));
         due(99, x.oakIs(0, 1));
-        due(255, x.oakIs(1, 1));
+        due(127, x.oakIs(1, 1));
         due(0, x.oakIs(2, 1));
+        due(127, x.oakIs(3, 1));
         sheetOf(x, 0, 16, 65536 + 999, -65536 + 5, 65535);
         due(2, x.unders(0));
         due(999, x.oakIs(0, 1));
         due(5, x.oakIs(1, 1));
         sheetOf(x, 0, 32, 65536);
         due(0, x.unders(0));
+        signs();
+    }
+
+    /** Numbers of 8, 16 and 32 bits alike have a sign: none of these lies UNDER an OAK. */
+    private static void signs() {
+        begin(28);
+        int[][] refused = {{8, -1, 255, 128, -128, 256 + 200, MAX}, {16, -1, 65535, 32768, 32767, MAX}, {32, -1, MIN, MAX}};
+        for (int[] row : refused) {
+            for (int i = 1; i < row.length; i++) {
+                PigNinths x = new PigNinths();
+                sheetOf(x, 1, row[0], row[i]);
+                due(0, x.unders(1));
+                due(0, x.told(1));
+                // They keep their sign where they are moved.
+                sheetOf(x, 2, row[0], 7, 7);
+                due(1, x.move(1, 0, 2, 1, 1));
+                due(1, x.unders(2));
+                due(7, x.oakIs(0, 1));
+                due(0, x.oakIs(1, 1));
+            }
+        }
+        int[][] least = {{8, -128}, {16, -32768}};
+        for (int[] row : least) {
+            PigNinths x = new PigNinths();
+            sheetOf(x, 0, row[0], 0, 2 * row[1] + 3, -2 * row[1] + 4);
+            due(3, x.unders(0));
+            due(3, x.oakIs(1, 1));
+            due(4, x.oakIs(2, 1));
+        }
     }
 
     private static void moves() {
