@@ -252,7 +252,6 @@ public final class Promise17To24Test extends Cases {
     static void promise22_bestTrade_thereIsNone() {
         refused(NONE, x -> {
             x.rain(0);
-            x.unders(1);
             for (int oak = 0; oak < 16; oak++) {
                 x.oak(oak, 1, 0);
             }
