@@ -44,6 +44,17 @@ public final class Term2TextsTest extends Cases {
         due(40, value(times(29, "1+") + "11"));
     }
 
+    static void term2_tape_of60BytesEachASignANameOrADigit() {
+        // As many parts as a TEXT can have: each of them counts, the first and the last.
+        due(29 * 7, value("!u" + times(29, "+a")));
+        due(29 * 7 + 1, value("!0" + times(29, "+a")));
+        due(28 * 7 - 5, value("!u" + times(28, "+a") + "-h"));
+        PigNinths x = new PigNinths();
+        due(1, text(x, 1, "!9" + times(29, "-9")));
+        due(1, text(x, 1, "!u" + times(29, "+a")));
+        due(1 + 29 * 7, x.oakIs(7, 2));
+    }
+
     static void term2_tape_of60BytesWithAFaultAtItsLast() {
         due(59, fault(times(29, "1+") + "1)"));
     }

@@ -329,6 +329,35 @@ public final class Term3AheadTest extends Cases {
         }
     }
 
+    static void term3_bestFeed_notAbove9() {
+        // FARMERS 1 and 2 find the 35 that are left and part with them (3 for FARMER 0 by each feed from 0 to 9).
+        // Only a HUNGER below 0 would leave all 35 for FARMER 0, who hides what it finds.
+        PigNinths x = dry();
+        x.oak(0, 1, 70);
+        x.farmer(0, 39);
+        x.farmer(1, 60);
+        for (int farmer = 2; farmer < 8; farmer++) {
+            x.farmer(farmer, 59);
+        }
+        due(1, text(x, 0, "9*(h<0)"));
+        due(0, x.bestFeed(0));
+        due(35 + 3, x.bestFeed(1));
+        due(0, x.bestFeed(2));
+    }
+
+    static void term3_bestFeed_ofAPurseThatStaysEmpty() {
+        // FARMER 0 finds nothing today, and the others hide all 35: the PURSE is 0 by each feed, nothing is lost.
+        PigNinths x = dry();
+        x.pig(1, 0);
+        x.oak(0, 1, 35);
+        for (int farmer = 1; farmer < 9; farmer++) {
+            x.farmer(farmer, 39);
+        }
+        due(0, x.bestFeed(0));
+        due(0, x.bestFeed(1));
+        due(0, x.bestFeed(2));
+    }
+
     static void term3_bestFeed_isOfWhoHasItNow() {
         PigNinths x = dryAt(4);
         for (int farmer = 0; farmer < 9; farmer++) {
