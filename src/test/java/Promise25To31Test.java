@@ -684,4 +684,15 @@ public final class Promise25To31Test extends Cases {
         due(2, x.judge(0));
         due(0, x.told(3));
     }
+
+    static void promise31_judge_changesNothingFromEachPlace() {
+        for (int oak = 0; oak < 16; oak++) {
+            int place = oak;
+            SetUp told = x -> {
+                x.pig(0, place);
+                sheetOf(x, 3, 8, place, x.ahead(1, 0), -1);
+            };
+            looked(2, told, x -> x.judge(3));
+        }
+    }
 }
